@@ -217,6 +217,15 @@ public final class PromisesTest {
         Check.fault("edition " + (char) 233, 8, 1);
         Check.fault("edition " + (char) 0, 8, 1);
         Check.fault("when 0 0 0 refuse;", 0, 1);
+        CallLaws x = new CallLaws();
+        Check.laws(x, "zzzzzzzzzzzzzzzzzzzz");
+        due("7: what an earlier text left is no part of a name", Check.laws(x, "edition"), -1000107);
+        Check.laws(x, "00000000000000000000");
+        due("7: nor of a number", Check.laws(x, "edition 0"), -1000109);
+        due("7: a name that fills the tape", Check.laws(x, "z".repeat(500)), -1000100);
+        due("7: a number that fills the tape", Check.laws(x, " ".repeat(499) + "7"), -1000599);
+        due("7: signs that fill the tape", Check.laws(x, ";".repeat(500)), -1000100);
+        due("7: a long name at the end", Check.laws(x, "try" + " ".repeat(496) + "1"), -1000600);
     }
 
     private static void faultsOfEditions() {
@@ -247,7 +256,9 @@ public final class PromisesTest {
         Check.fault("saying 3 0 3 0 0 0 refuse;", 11, 2);
         Check.fault("saying 3 0 2 8 8 0 refuse;", 13, 2);
         Check.fault("saying 3 0 2 1 0 0 refuse;", 15, 2);
+        Check.fault("saying 3 0 2 1 8 0 refuse;", 15, 2);
         Check.fault("saying 3 0 2 1 1 4 refuse;", 17, 2);
+        Check.fault("saying 3 0 2 1 1 0 give 99 0 0 0;", 24, 2);
         Check.fault("saying 3 0 2 1 1 0 1 refuse;", 19, 1);
         Check.fault("saying 3 0 2 1 1 0 when;", 19, 1);
         Check.fault("saying 3 0 2 1 1 0 refuse 0 0 0 0;", 26, 1);
@@ -276,6 +287,7 @@ public final class PromisesTest {
         Check.fault("within 0 100;", 9, 1);
         Check.fault("within 0 99 0;", 12, 2);
         Check.fault("within 0 99 4;", 12, 2);
+        Check.fault("within 0 99 99;", 12, 2);
         Check.fault("within 0 99 1 2 1;", 16, 2);
         Check.fault("within 0 99 1 2 3 3;", 18, 2);
         Check.fault("within 0 99 1 2 3 when;", 18, 1);
@@ -487,6 +499,8 @@ public final class PromisesTest {
         due("16: of another", x.quarrel(3), 128 + 256);
         CallLaws y = Check.told("saying 0 0 1 0 0 0 give 2 0 0 0;saying 0 0 1 1 1 0 give 2 1 1 0;saying 0 0 1 0 7 3 give 2 2 2 0;");
         due("16: the least of several", y.quarrel(1), 1 + 4);
+        CallLaws z = Check.told("saying 0 0 1 0 0 3 give 0 0 1 1;saying 0 0 1 0 7 3 give 0 2 3 1;saying 0 0 1 1 7 3 give 0 0 5 0;");
+        due("16: three that are never together", z.quarrel(1), 0);
         due("16: giver", y.quarrel(4), BAD);
         due("16: giver", y.quarrel(-1), BAD);
     }
@@ -522,7 +536,9 @@ public final class PromisesTest {
         due("18: of another edition", x.right(3), 1);
         Check.laws(x, "try 0 1 0;try 0 1 10;");
         due("18: and later ones", x.right(0), 0);
-        due("18: saying", x.right(4), BAD);
+        Check.laws(x, "saying 3 3 2 0 0 0 give 1 0 0 0 2 0 0 0;try 3 3 4;try 2 3 2;try 3 2 2;");
+        due("18: the last edition of the last", x.right(4), 2);
+        due("18: saying", x.right(5), BAD);
         due("18: saying", x.right(-1), BAD);
     }
 
