@@ -17,6 +17,8 @@ public final class PromisesTest {
         faultsOfSayings();
         faultsOfTriesAndWithin();
         rooms();
+        allFull();
+        leftovers();
         fault();
         editions();
         answer();
@@ -316,6 +318,50 @@ public final class PromisesTest {
         due("7: 20 still", y.laws(), 20);
         due("7: the last", y.saying(19, 2), 1);
         due("7: no 21st", y.saying(20, 2), BAD);
+    }
+
+    /** As much as there is room for, and every call that looks through all of it. */
+    private static void allFull() {
+        CallLaws x = new CallLaws();
+        for (int service = 0; service < 4; service++) {
+            String edition = "edition " + service + " when 0 7 3 give ";
+            Check.laws(x, edition + "0 0 0 0;" + edition + "1 0 0 0;" + edition + "2 0 0 0;" + edition + "3 0 0 0;");
+        }
+        for (int i = 0; i < 20; i++) {
+            Check.laws(x, "saying 2 " + i % 4 + " 3 0 7 3 give 0 " + i % 4 + " " + (i % 4 + i / 10) + " 1;");
+        }
+        due("full: editions", x.count(1), 16);
+        due("full: sayings", x.count(2), 20);
+        due("full: kept", x.count(3), 20);
+        due("full: the last edition", x.answer(3, 3, 7, 2, 0), 3);
+        due("full: stand-ins", x.standIn(2, 3, 3, 7, 2, -1), 2 * 343);
+        due("full: no quarrel, as all may be left out", x.quarrel(3), 0);
+        due("full: the last house", x.house(624, 0), 1);
+        due("full: a red house", x.house(624 - 125, 1), 3);
+        due("full: to the last house", x.letOut(0, 624, 0), 4);
+        due("full: to the last house", x.letOut(0, 624, 1), 4);
+        due("full: from the last house", x.letOut(624, 0, 1), 124);
+        due("full: a change", x.change(3, 3, 0), 0xCCC88);
+    }
+
+    /** What a text with a FAULT has filled on its way is seen by no call. */
+    private static void leftovers() {
+        CallLaws x = Check.told("edition 0;edition 1 when 0 7 3 give 0 0 0 0;saying 0 0 1 0 7 3 give;");
+        Check.laws(x, "saying 0 0 1 0 7 3 refuse;edition 1;edition 1;try 0 0 15;within 0 9;saying 0 0 1 0 7 3 give 1 1 1 0;;");
+        due("left: fault", x.fault(), 1);
+        due("left: stand-ins", x.standIn(0, 0, 1, 0, 0, -1), 2401);
+        due("left: house", x.house(6, 0), 1);
+        due("left: quarrel", x.quarrel(1), 0);
+        due("left: kept", x.count(3), 1);
+        due("left: editions", x.editions(1), 1);
+        due("left: no such edition", x.play(0, 1, 0), BAD);
+        due("left: no such house", x.house(10, 0), BAD);
+        due("left: within", x.hours(0), NONE);
+        due("left: rows are used again", Check.laws(x, "saying 0 0 1 0 7 3 give;edition 1 when 1 1 3 give 0 0 0 0;"), 2);
+        due("left: rows are used again", x.saying(1, 6), 0);
+        due("left: rows are used again", x.saying(1, 7), 0);
+        due("left: rows are used again", x.answer(1, 1, 1, 0, 4), 0);
+        due("left: rows are used again", x.answer(1, 1, 0, 0, 4), 1);
     }
 
     /** 8 */
