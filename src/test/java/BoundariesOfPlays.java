@@ -170,6 +170,12 @@ final class BoundariesOfPlays {
         Doc.due("of one MOOD", Check.told("saying 0 0 1 0 7 2 refuse;saying 0 0 1 0 7 3 give;").quarrel(1), 3);
         String three = "saying 0 0 1 0 7 3 give 0 0 2 1;saying 2 0 1 0 7 3 give 0 3 5 1;saying 3 0 1 ";
         Doc.due("three", Check.told(three + "7 7 2 give 0 0 5 0;").quarrel(1), 7);
+        Doc.due("three that meet in the first case alone", Check.told("saying 0 0 1 0 0 3 give 0 0 2 1;saying 0 0 1 0 7 0 give 0 3 5 1;"
+            + "saying 0 0 1 0 7 3 give 0 0 5 0;").quarrel(1), 7);
+        Doc.due("three of which two do not meet", Check.told("saying 0 0 1 0 2 3 give 0 0 5 0;saying 0 0 1 0 3 3 give 0 0 2 1;"
+            + "saying 0 0 1 3 7 3 give 0 3 5 1;").quarrel(1), 0);
+        Doc.due("three of two givers", Check.told("saying 0 0 2 0 7 3 give 0 0 5 0;saying 0 0 1 0 7 3 give 0 0 2 1;"
+            + "saying 0 0 1 0 7 3 give 0 3 5 1;").quarrel(1), 0);
         Doc.due("two, though three are less", Check.told(three + "7 7 2 give 0 0 5 0;saying 0 0 1 7 7 2 refuse;").quarrel(1), 9);
         theLeastSet();
     }

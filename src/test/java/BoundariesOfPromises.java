@@ -77,8 +77,10 @@ final class BoundariesOfPromises {
         CallLaws x = Check.told(VALUES);
         due(x.sheet(0, 0, 0), 0);
         due(x.sheet(7, 2, 40), 40);
+        due(x.set(7, 0, 1), 1);
         due(x.set(7, 39, 1), 1);
         due(x.sheet(7, 2, 40), 40);
+        Doc.due("0 again", x.allows(0, 7, 0, 1), 1);
         Doc.due("0 again", x.allows(0, 7, 39, 1), 1);
         due(x.sheet(7, 0, 1), 1);
         due(x.set(7, 0, 256), 0);
@@ -248,6 +250,28 @@ final class BoundariesOfPromises {
         due(x.count(2), 3);
         due(x.editions(1), 1);
         Doc.due("what had the FAULT is not read again", x.laws(), 3);
+        leftByFaults();
+    }
+
+    /** What came after a FAULT has nothing of what stood ahead of the FAULT. */
+    private static void leftByFaults() {
+        CallLaws x = new CallLaws();
+        Check.laws(x, "edition 1 when 0 7 3 give 5 5 5 5;edition 1 when 0 7 3 give 5 5 5 5 x");
+        Check.laws(x, "saying 2 3 1 4 6 2 give 0 1 1 0 3 1 1 0;saying 0 0 1 0 0 0 refuse x");
+        due(Check.laws(x, "edition 1;edition 1 when 7 7 2 give 0 0 0 0;saying 0 0 1 0 0 0 give;saying 0 0 1 0 0 1 give;"), 2);
+        for (int ask = 0; ask < 8; ask++) {
+            for (int mood = 0; mood < 3; mood++) {
+                due(x.answer(1, 0, ask, mood, 4), 1);
+                due(x.answer(1, 1, ask, mood, 4), ask == 7 && mood == 2 ? 0 : 1);
+            }
+        }
+        for (int saying = 0; saying < 2; saying++) {
+            int[] want = {0, 0, 1, 0, 0, saying, 0, 0};
+            for (int what = 0; what < 8; what++) {
+                due(x.saying(saying, what), want[what]);
+            }
+        }
+        due(x.standIn(0, 0, 1, 0, 0, -1), 2401);
     }
 
     private static void faultAndEditions() {
@@ -607,6 +631,8 @@ final class BoundariesOfPromises {
         due(x.count(MAX), BAD);
         CallLaws y = Check.told("saying 0 0 1 0 7 3 refuse;edition 0;edition 2;");
         Doc.due("its giver has no EDITION", y.count(3), 0);
+        Check.laws(y, "saying 1 0 0 0 7 3 refuse;saying 1 0 3 0 7 3 refuse;edition 3;");
+        Doc.due("givers 0 and 3", y.count(3), 2);
     }
 
     private static void status() {
