@@ -258,6 +258,8 @@ final class BoundariesOfPromises {
         CallLaws x = new CallLaws();
         Check.laws(x, "edition 1 when 0 7 3 give 5 5 5 5;edition 1 when 0 7 3 give 5 5 5 5 x");
         Check.laws(x, "saying 2 3 1 4 6 2 give 0 1 1 0 3 1 1 0;saying 0 0 1 0 0 0 refuse x");
+        due(x.standIn(2, 3, 1, 5, 2, -1), 2402);
+        due(x.standIn(0, 0, 1, 0, 0, -1), 2402);
         due(Check.laws(x, "edition 1;edition 1 when 7 7 2 give 0 0 0 0;saying 0 0 1 0 0 0 give;saying 0 0 1 0 0 1 give;"), 2);
         for (int ask = 0; ask < 8; ask++) {
             for (int mood = 0; mood < 3; mood++) {

@@ -296,6 +296,7 @@ final class BoundariesOfTexts {
         due(Check.laws(x, "saying 3 3 2 7 7 3 refuse;"), 20);
         due(x.saying(19, 2), 2);
         due(x.kind(19), 2);
+        Doc.due("of the last", x.standIn(3, 3, 2, 7, 2, -1), 1);
         due(x.saying(20, 2), BAD);
         due(Check.laws(x, GIVE), -1000100);
         due(x.count(2), 20);
