@@ -902,19 +902,28 @@ public final class CallLaws {
 
         void split() {
             int many = 0;
-            int at = 0;
-            while (at < length) {
-                int end = at + 1;
-                if (bytes[at] != ' ' && bytes[at] != '\n') {
-                    end = endOfToken(at);
-                    tokens[many] = (byte) tokenOf(at, end);
+            for (int at = 0; at < length; at++) {
+                if (beginsToken(at)) {
+                    tokens[many] = (byte) tokenOf(at, endOfToken(at));
                     starts[many] = (short) at;
                     many++;
                 }
-                at = end;
             }
             tokens[many] = END;
             starts[many] = (short) length;
+        }
+
+        /** A letter behind a letter, or a figure behind a figure, goes on with the TOKEN that stands there. */
+        boolean beginsToken(int at) {
+            byte b = bytes[at];
+            if (b == ' ' || b == '\n') {
+                return false;
+            }
+            if (at == 0) {
+                return true;
+            }
+            byte ahead = bytes[at - 1];
+            return !(isLetter(b) && isLetter(ahead)) && !(isFigure(b) && isFigure(ahead));
         }
 
         int endOfToken(int start) {

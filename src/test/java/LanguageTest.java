@@ -1,4 +1,5 @@
 import java.io.IOException;
+import java.lang.reflect.Array;
 import java.lang.reflect.Constructor;
 import java.lang.reflect.Field;
 import java.lang.reflect.Method;
@@ -6,8 +7,12 @@ import java.lang.reflect.Modifier;
 import java.nio.charset.StandardCharsets;
 import java.nio.file.Files;
 import java.nio.file.Path;
+import java.util.ArrayDeque;
 import java.util.ArrayList;
+import java.util.Deque;
+import java.util.IdentityHashMap;
 import java.util.List;
+import java.util.Map;
 import java.util.Set;
 import java.util.TreeSet;
 import java.util.regex.Matcher;
@@ -15,19 +20,14 @@ import java.util.regex.Pattern;
 
 /** The rules of LANGUAGE.md that can be seen from the class itself or from the words of its source. */
 public final class LanguageTest {
-    private static final Set<String> FACE = Set.of(
-        "sheet(int,int,int)", "set(int,int,int)", "copy(int,int,int,int,int)", "drop(int)", "feed(long,int)", "laws()",
-        "fault()", "editions(int)", "answer(int,int,int,int,int)", "saying(int,int)", "play(int,int,int)",
-        "standIn(int,int,int,int,int,int)", "allows(int,int,int,int)", "noMore(int,int)", "quarrel(int)",
-        "change(int,int,int)", "right(int)", "house(int,int)", "letOut(int,int,int)", "hours(int)", "kind(int)",
-        "as(int,int)", "ask(int,int)", "trace(int)", "count(int)", "status()");
-
-    public static void main(String[] args) throws IOException {
-        face();
+    public static void main(String[] args) throws IOException, IllegalAccessException {
+        face(Files.readString(Path.of("../shared/DOC.md"), StandardCharsets.UTF_8));
         classes();
         String source = Files.readString(Path.of("src/main/java/CallLaws.java"), StandardCharsets.UTF_8);
         words(source);
         methods(source);
+        loops(bare(source));
+        room();
         Check.end();
     }
 
@@ -35,7 +35,17 @@ public final class LanguageTest {
         return Modifier.isPrivate(modifiers);
     }
 
-    private static void face() {
+    /** The methods that the document's face names, each with the types of what it takes. */
+    private static Set<String> faceTold(String document) {
+        Set<String> told = new TreeSet<>();
+        Matcher m = Pattern.compile("(?m)^    public int (\\w+)\\(([^)]*)\\);$").matcher(document);
+        while (m.find()) {
+            told.add(m.group(1) + "(" + m.group(2).replaceAll(" \\w+(, |$)", "$1").replace(" ", "") + ")");
+        }
+        return told;
+    }
+
+    private static void face(String document) {
         Class<?> c = CallLaws.class;
         Check.holds("1: public and final", Modifier.isPublic(c.getModifiers()) && Modifier.isFinal(c.getModifiers()));
         Set<String> open = new TreeSet<>();
@@ -52,7 +62,9 @@ public final class LanguageTest {
             open.add(m.getName() + "(" + String.join(",", types) + ")");
             Check.holds("1: public int " + m.getName(), Modifier.isPublic(m.getModifiers()) && m.getReturnType() == int.class);
         }
-        Check.holds("1: the face " + open, open.equals(FACE));
+        Set<String> told = faceTold(document);
+        Check.due("1: the document's face", told.size(), 26);
+        Check.holds("1: the face " + open + " is that of the document " + told, open.equals(told));
         for (Method m : c.getDeclaredMethods()) {
             if (!isHidden(m.getModifiers())) {
                 Check.holds("1: no private " + m.getName(), !hidden.contains(m.getName()));
@@ -150,5 +162,89 @@ public final class LanguageTest {
                 Check.holds("11: " + m.group(2) + " is short (" + (end - i + 1) + ")", end - i + 1 <= 60);
             }
         }
+    }
+
+    /**
+     * 9: a loop has a counter that is held against a bound in the head and goes one step each round; the
+     * body of a 'for' does not touch it, and a 'while' has the step as a line of its body.
+     */
+    private static void loops(String code) {
+        String[] lines = code.split("\n");
+        Pattern counted = Pattern.compile("^for \\(int (\\w+) = [^;]+; ([^;]+); (\\w+)(?:\\+\\+|--)\\) \\{$");
+        Pattern open = Pattern.compile("^while \\((\\w+) < .*\\) \\{$");
+        int seen = 0;
+        for (int i = 0; i < lines.length; i++) {
+            String line = lines[i].trim();
+            if (!line.matches("(for|while|do)\\b.*")) {
+                continue;
+            }
+            seen++;
+            String body = bodyOf(lines, i);
+            Matcher f = counted.matcher(line);
+            Matcher w = open.matcher(line);
+            boolean ends = f.matches() && f.group(1).equals(f.group(3))
+                    && f.group(2).matches("(.* )?" + f.group(1) + " (<|<=|>=) .*")
+                    && !Pattern.compile("\\b" + f.group(1) + " ?(=[^=]|[-+|]=|\\+\\+|--)").matcher(body).find()
+                || w.matches() && Pattern.compile("(?m)^\\s*" + w.group(1) + "\\+\\+;$").matcher(body).find();
+            Check.holds("9: the end of '" + line + "' can be seen", ends);
+        }
+        Check.holds("9: loops were looked at", seen > 20);
+    }
+
+    private static String bodyOf(String[] lines, int head) {
+        String end = lines[head].replaceAll("\\S.*", "") + "}";
+        StringBuilder body = new StringBuilder();
+        for (int i = head + 1; i < lines.length && !lines[i].equals(end); i++) {
+            body.append(lines[i]).append('\n');
+        }
+        return body.toString();
+    }
+
+    /** 12: what one object takes, and that some hundred calls, the dearest among them, take nothing more. */
+    private static void room() throws IllegalAccessException {
+        CallLaws x = new CallLaws();
+        int[] first = roomOf(x);
+        Check.holds("12: an object is " + first[0] + " objects", first[0] <= 100);
+        Check.holds("12: an object is " + first[1] + " fields and elements", first[1] <= 5000);
+        Check.laws(x, Snapshot.LAWS);
+        for (int i = 0; i < 100; i++) {
+            x.sheet(i % 8, i % 3, 40);
+            x.letOut(0, 6, i % 2);
+            x.standIn(0, 0, 1, i % 8, 0, 2401);
+            x.ask(i % 4, 1);
+        }
+        int[] last = roomOf(x);
+        Check.due("12: objects after 400 calls", last[0], first[0]);
+        Check.due("12: fields and elements after 400 calls", last[1], first[1]);
+    }
+
+    private static int[] roomOf(Object root) throws IllegalAccessException {
+        Map<Object, Object> seen = new IdentityHashMap<>();
+        Deque<Object> open = new ArrayDeque<>(List.of(root));
+        int[] sum = new int[2];
+        while (!open.isEmpty()) {
+            Object one = open.pop();
+            if (seen.put(one, one) != null) {
+                continue;
+            }
+            sum[0]++;
+            if (one.getClass().isArray()) {
+                sum[1] += Array.getLength(one);
+                for (int i = 0; one instanceof Object[] && i < Array.getLength(one); i++) {
+                    open.push(Array.get(one, i));
+                }
+                continue;
+            }
+            for (Field f : one.getClass().getDeclaredFields()) {
+                if (!Modifier.isStatic(f.getModifiers())) {
+                    sum[1]++;
+                    f.setAccessible(true);
+                    if (!f.getType().isPrimitive()) {
+                        open.push(f.get(one));
+                    }
+                }
+            }
+        }
+        return sum;
     }
 }

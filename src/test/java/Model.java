@@ -64,6 +64,8 @@ final class Model {
         final int[][] looks = new int[4][4];
         final int[] hours = {-1, -1, -1, -1};
         final List<List<Integer>> calls = new ArrayList<>();
+        /** Looked for once; -1: not yet. */
+        final int[] quarrels = {-1, -1, -1, -1};
 
         Book() {
             for (int i = 0; i < 4; i++) {
@@ -499,30 +501,63 @@ final class Model {
         if (g < 0 || g > 3) {
             return BAD;
         }
+        if (book.quarrels[g] < 0) {
+            book.quarrels[g] = findQuarrel(g);
+        }
+        return book.quarrels[g];
+    }
+
+    /** Sets of one size by rising numbers, sizes from one on: the first that quarrels is the one. */
+    private int findQuarrel(int g) {
         List<Integer> mine = new ArrayList<>();
         for (int i = 0; i < book.sayings.size(); i++) {
             if (book.sayings.get(i).giver == g) {
                 mine.add(i);
             }
         }
-        int best = 0;
-        for (int set = 1; set < 1 << mine.size(); set++) {
-            if (best != 0 && Integer.bitCount(set) >= Integer.bitCount(best)) {
-                continue;
-            }
-            List<Saying> some = new ArrayList<>();
-            for (int k = 0; k < mine.size(); k++) {
-                if ((set >> k & 1) != 0) {
-                    some.add(book.sayings.get(mine.get(k)));
+        if (!canQuarrel(mine)) {
+            return 0;
+        }
+        for (int size = 1; size <= mine.size(); size++) {
+            for (int set = 1; set < 1 << mine.size(); set++) {
+                if (Integer.bitCount(set) == size && quarrels(some(mine, set))) {
+                    return bits(mine, set);
                 }
             }
-            if (quarrels(some)) {
-                best = set;
+        }
+        return 0;
+    }
+
+    /** If some set quarrels about a case, then all that are about it do. */
+    private boolean canQuarrel(List<Integer> mine) {
+        for (int c = 0; c < 24; c++) {
+            List<Saying> all = new ArrayList<>();
+            for (int i : mine) {
+                if (book.sayings.get(i).about(c / 3, c % 3)) {
+                    all.add(book.sayings.get(i));
+                }
+            }
+            if (!all.isEmpty() && quarrels(all)) {
+                return true;
             }
         }
+        return false;
+    }
+
+    private List<Saying> some(List<Integer> mine, int set) {
+        List<Saying> some = new ArrayList<>();
+        for (int k = 0; k < mine.size(); k++) {
+            if ((set >> k & 1) != 0) {
+                some.add(book.sayings.get(mine.get(k)));
+            }
+        }
+        return some;
+    }
+
+    private static int bits(List<Integer> mine, int set) {
         int bits = 0;
         for (int k = 0; k < mine.size(); k++) {
-            bits |= (best >> k & 1) << mine.get(k);
+            bits |= (set >> k & 1) << mine.get(k);
         }
         return bits;
     }
@@ -613,10 +648,8 @@ final class Model {
     }
 
     private static boolean oneStep(int a, int b) {
-        int differ = 0;
-        for (int s = 0; s < 4; s++) {
-            differ += digits(a)[s] != digits(b)[s] ? 1 : 0;
-        }
+        int differ = (a % 5 != b % 5 ? 1 : 0) + (a / 5 % 5 != b / 5 % 5 ? 1 : 0) + (a / 25 % 5 != b / 25 % 5 ? 1 : 0)
+            + (a / 125 != b / 125 ? 1 : 0);
         return differ == 1;
     }
 
@@ -624,18 +657,20 @@ final class Model {
         if (!green[from] || !green[to]) {
             return NONE;
         }
-        Map<Integer, Integer> far = new HashMap<>(Map.of(from, 0));
+        int[] far = new int[625];
+        Arrays.fill(far, NONE);
+        far[from] = 0;
         Deque<Integer> queue = new ArrayDeque<>(List.of(from));
         while (!queue.isEmpty()) {
             int at = queue.poll();
             for (int next = 0; next < 625; next++) {
-                if (green[next] && oneStep(at, next) && !far.containsKey(next)) {
-                    far.put(next, far.get(at) + 1);
+                if (green[next] && far[next] == NONE && oneStep(at, next)) {
+                    far[next] = far[at] + 1;
                     queue.add(next);
                 }
             }
         }
-        return far.getOrDefault(to, NONE);
+        return far[to];
     }
 
     int letOut(int from, int to, int what) {

@@ -2,7 +2,7 @@ import java.util.Random;
 
 /** Runs of drawn calls on the class and on the model, always the same ones; each answer must be alike. */
 public final class ModelTest {
-    private static final int RUNS = 400, CALLS = 400;
+    private static final int RUNS = 400, CALLS = 400, WAYS_RUNS = 100, WAYS = 10;
 
     private final Random random;
     private final int run;
@@ -25,6 +25,11 @@ public final class ModelTest {
                 test.call();
             }
         }
+        int detours = 0;
+        for (int run = 0; run < WAYS_RUNS; run++) {
+            detours += new ModelTest(RUNS + run).ways();
+        }
+        Check.holds("some ways are longer than straight ones: " + detours, detours > 40);
         Check.end();
     }
 
@@ -259,21 +264,67 @@ public final class ModelTest {
                 break;
             case 1: due("hours(" + g + ")", x.hours(g), m.hours(g)); break;
             case 2:
-                if (small(g)) {
-                    due("quarrel(" + g + ")", x.quarrel(g), m.quarrel(g));
-                }
+                due("quarrel(" + g + ")", x.quarrel(g), m.quarrel(g));
                 break;
             default: due("house(" + from + ", " + what + ")", x.house(from, what), m.house(from, what));
         }
     }
 
-    /** The model looks through all sets of a giver's sayings: only where these are few. */
-    private boolean small(int giver) {
-        int many = 0;
-        for (int s = 0; s < m.count(2); s++) {
-            many += m.saying(s, 2) == giver ? 1 : 0;
+    /** Many EDITIONS that SAYINGS tie to one another, so that few HOUSES are GREEN: how many ways make a detour. */
+    private int ways() {
+        int most = 2 + random.nextInt(3);
+        for (int service = 0; service < 4; service++) {
+            for (int edition = 0; edition < most; edition++) {
+                tell("edition " + service + " when 0 7 3 give" + number(2) + number(2) + number(2) + " 0;");
+            }
         }
-        return many <= 8;
+        for (int k = 4 + random.nextInt(17); k > 0 && m.count(2) < 20; k--) {
+            int caller = random.nextInt(4);
+            int from = random.nextInt(2);
+            tell("saying " + caller + " " + random.nextInt(most) + " " + (caller + 1 + random.nextInt(3)) % 4 + " 0 7 3 give "
+                + random.nextInt(3) + " " + from + " " + (from + random.nextInt(2)) + " 0;");
+        }
+        int detours = 0;
+        for (int k = 0; k < WAYS; k++) {
+            int from = drawGreen();
+            int to = drawGreen();
+            int fewest = m.letOut(from, to, 0);
+            due("letOut(" + from + ", " + to + ", 0)", x.letOut(from, to, 0), fewest);
+            due("letOut(" + from + ", " + to + ", 1)", x.letOut(from, to, 1), m.letOut(from, to, 1));
+            detours += fewest > apart(from, to) ? 1 : 0;
+        }
+        return detours;
+    }
+
+    private void tell(String text) {
+        Check.feed(x, text);
+        for (int i = 0; i < text.length(); i++) {
+            m.feed(text.charAt(i), 1);
+        }
+        due("laws() of '" + text + "'", x.laws(), m.laws());
+    }
+
+    /** Full ones first: an empty place is never in the way. */
+    private int drawGreen() {
+        int house = 0;
+        for (int tries = 0; tries < 60; tries++) {
+            house = 0;
+            for (int service = 0; service < 4; service++) {
+                house = 5 * house + (tries < 50 ? 1 : 0) + random.nextInt(m.editions(3 - service) + (tries < 50 ? 0 : 1));
+            }
+            if (m.house(house, 0) == 1) {
+                return house;
+            }
+        }
+        return house;
+    }
+
+    private static int apart(int a, int b) {
+        int many = 0;
+        for (int weight = 1; weight <= 125; weight *= 5) {
+            many += a / weight % 5 != b / weight % 5 ? 1 : 0;
+        }
+        return many;
     }
 
     private void asked() {
@@ -282,9 +333,6 @@ public final class ModelTest {
         int kind = draw(5);
         int i = draw(5);
         int which = draw(5);
-        if (s >= 0 && s < m.count(2) && !small(m.saying(s, 2))) {
-            return;
-        }
         switch (random.nextInt(5)) {
             case 0: due("kind(" + s + ")", x.kind(s), m.kind(s)); break;
             case 1: due("as(" + s + ", " + kind + ")", x.as(s, kind), m.as(s, kind)); break;
